@@ -566,13 +566,13 @@ public final class BranchedPast {
             return found;
         }
 
-        /** Those of a set whose field is a number that compares so (-1, 0, 1) to a bound. */
-        int withNumber(int set, int field, int order, int bound) {
+        /** Those of a set whose field is a number that is less (<), the same (=) or more (>). */
+        int withNumber(int set, int field, char sign, int bound) {
             int found = 0;
             for (int object = 0; object < OBJECTS; object++) {
                 int cell = cellOf(object, field);
                 if (isIn(object, set) && kind[cell] == NUMBER
-                        && Integer.compare(value[cell], bound) == order) {
+                        && compares(value[cell], sign, bound)) {
                     found |= 1 << object;
                 }
             }
@@ -592,6 +592,13 @@ public final class BranchedPast {
 
         private int target(int cell) {
             return kind[cell] == REFERENCE ? 1 << value[cell] : 0;
+        }
+
+        private static boolean compares(int number, char sign, int bound) {
+            if (sign == '<') {
+                return number < bound;
+            }
+            return sign == '>' ? number > bound : number == bound;
         }
 
         private static boolean isIn(int object, int set) {
@@ -729,8 +736,7 @@ public final class BranchedPast {
             if (bound == NO_NUMBER || !takes(']')) {
                 return false;
             }
-            // The three signs stand side by side, with = in the middle.
-            set = view.withNumber(set, field, sign - '=', bound);
+            set = view.withNumber(set, field, sign, bound);
             return true;
         }
 

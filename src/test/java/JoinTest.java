@@ -129,7 +129,10 @@ public final class JoinTest {
         past.write(1, 0, 0, 1, 5);
         past.write(2, 0, 0, 1, 5);
         Check.refused("no branch 3", Check.INDEX, past, () -> past.join(3, 3));
-        Check.refused("no branch -1", Check.INDEX, past, () -> past.join(0, -1));
+        Check.refused("from no branch 3", Check.INDEX, past, () -> past.join(3, 0));
+        Check.refused("from no branch -1", Check.INDEX, past, () -> past.join(-1, 0));
+        Check.refused("to no branch 3", Check.INDEX, past, () -> past.join(0, 3));
+        Check.refused("to no branch -1", Check.INDEX, past, () -> past.join(0, -1));
         Check.refused("the same", Check.ARGUMENT, past, () -> past.join(1, 1));
         past.close(0);
         Check.refused("from closed", Check.STATE, past, () -> past.join(0, 1));

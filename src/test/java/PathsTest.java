@@ -209,6 +209,10 @@ public final class PathsTest {
         gives(past, "*[0<-9999][1<-9999][2<-9999]?0~?", -1);
         gives(past, "*[1=1][1=01][1=001][1=0001]?0?2^", -1);
         gives(past, "*[1=1][1=01][1=001][1=0001]?0?2", 128);
+        // The text is full, and the path stops in the middle of a step.
+        gives(past, "a.1.1.1.1.1.1.1.1.1.1.1.1.1[1=12", -1);
+        gives(past, "a.1.1.1.1.1.1.1.1.1.1.1.1.1.1[1=", -1);
+        gives(past, "a.1.1.1.1.1.1.1.1.1.1.1.1.1.1.1.", -1);
     }
 
     private static void noPaths() {

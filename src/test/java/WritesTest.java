@@ -190,6 +190,8 @@ public final class WritesTest {
         past.write(0, 2, 3, 2, 0);
         isDifferent(past, 0, 1, 11, 12, 22, 47);
         isDifferent(past, 1, 1);
+        past.write(0, 0, 0, 1, 2);
+        isDifferent(past, 1, 0, 0, 11, 12, 22, 47);
         Check.refused("no branch 2", Check.INDEX, past, () -> past.differs(0, 2, 0));
         Check.refused("no branch -1", Check.INDEX, past, () -> past.differs(-1, 0, 0));
         past.close(1);
