@@ -1,4 +1,4 @@
-/** Compares answers with those that are due; a test closes with exit code 1 if one was wrong. */
+/** Compares answers with those that are due; a test ends with exit code 1 if one was wrong. */
 final class Check {
     static final Class<IndexOutOfBoundsException> INDEX = IndexOutOfBoundsException.class;
     static final Class<IllegalArgumentException> ARGUMENT = IllegalArgumentException.class;
@@ -9,29 +9,71 @@ final class Check {
     private static int made = 0;
     private static int wrong = 0;
 
+    /** A call with one of its arguments left open. */
+    interface With {
+        void call(Memory memory, int argument);
+    }
+
     private Check() {
     }
 
     static void due(String call, Object want, Object got) {
         made++;
         if (!want.equals(got)) {
-            wrong++;
-            System.out.println(call + " answered " + got + ", due is " + want);
+            fail(call + " answered " + got + ", due is " + want);
         }
     }
 
+    static void fail(String why) {
+        wrong++;
+        System.out.println("    " + why);
+    }
+
+    static int wrong() {
+        return wrong;
+    }
+
     /** The call must throw just this exception, and leave the object as it was. */
-    static void refused(String call, Class<? extends RuntimeException> want, BranchedPast past,
-            Runnable made) {
-        String before = Snapshot.of(past);
-        Object got = "nothing thrown";
-        try {
-            made.run();
-        } catch (RuntimeException thrown) {
-            got = thrown.getClass();
+    static void refused(String call, Class<? extends RuntimeException> want, Scene scene,
+            Scene refused) {
+        due(call, Answer.named(want), Answer.of(refused, scene.past()));
+        sameAs(call + " changes nothing", scene,
+                scene.then(memory -> Answer.of(refused, memory)));
+    }
+
+    /** The call must not throw. */
+    static void allowed(String call, Scene scene, Scene allowed) {
+        due(call, Answer.NOTHING, Answer.of(allowed, scene.past()));
+    }
+
+    /** One below, one above, and what is farthest off: all are refused. */
+    static void refusedOutside(String argument, Class<? extends RuntimeException> want, int least,
+            int greatest, Scene scene, With with) {
+        int[] outside = {least - 1, greatest + 1, Integer.MIN_VALUE, Integer.MAX_VALUE};
+        for (int number : outside) {
+            refused(argument + " " + number, want, scene, memory -> with.call(memory, number));
         }
-        due(call, want, got);
-        due(call + " changes nothing", before, Snapshot.of(past));
+    }
+
+    /** All from the least to the greatest are allowed. */
+    static void allowedWithin(String argument, int least, int greatest, Scene scene, With with) {
+        for (int number = least; number <= greatest; number++) {
+            int within = number;
+            allowed(argument + " " + number, scene, memory -> with.call(memory, within));
+        }
+    }
+
+    /** Nothing that can be asked tells the two apart. */
+    static void sameAs(String what, Scene want, Scene got) {
+        String[] due = Picture.of(want).split("\n");
+        String[] seen = Picture.of(got).split("\n");
+        due(what + ": lines", due.length, seen.length);
+        for (int line = 0; line < Math.min(due.length, seen.length); line++) {
+            if (!due[line].equals(seen[line])) {
+                due(what, due[line], seen[line]);
+                return;
+            }
+        }
     }
 
     static void end(String test) {

@@ -1,11 +1,10 @@
-import java.util.function.IntSupplier;
+import java.util.function.ToIntFunction;
 
 /** Long runs of calls, drawn from fixed seeds, each answer compared with that of PlainPast. */
 public final class ModelTest {
     private static final int RUNS = 150;
-    private static final int CALLS = 512;
 
-    private final BranchedPast past = new BranchedPast();
+    private final Past past = new Past();
     private final PlainPast plain = new PlainPast();
     private final String run;
     /** How many objects and fields the run mostly uses: with few of them, writes meet often. */
@@ -25,7 +24,7 @@ public final class ModelTest {
     public static void main(String[] args) {
         for (int run = 0; run < RUNS; run++) {
             ModelTest test = new ModelTest(run);
-            for (int call = 0; call < CALLS; call++) {
+            while (test.past.callsLeft() > 0) {
                 test.oneCall();
             }
         }
@@ -45,14 +44,14 @@ public final class ModelTest {
     }
 
     private int someBranch() {
-        return near(past.state(3));
+        return near(plain.state(3));
     }
 
     /** Mostly an open branch. */
     private int openBranch() {
         int branch = someBranch();
         for (int tries = 0; tries < 4; tries++) {
-            if (branch < 0 || branch >= past.state(3) || past.about(branch, 0) == 1) {
+            if (branch < 0 || branch >= plain.state(3) || plain.about(branch, 0) == 1) {
                 return branch;
             }
             branch = someBranch();
@@ -70,11 +69,11 @@ public final class ModelTest {
 
     /** Mostly a moment at which a branch can be read, with the edges drawn often. */
     private int someMoment(int branch) {
-        int first = past.state(1);
-        if (branch >= 0 && branch < past.state(3)) {
-            first = Math.max(first, past.about(branch, 2));
+        int first = plain.state(1);
+        if (branch >= 0 && branch < plain.state(3)) {
+            first = Math.max(first, plain.about(branch, 2));
         }
-        int clock = past.state(0);
+        int clock = plain.state(0);
         return switch (draw(8)) {
             case 0 -> first;
             case 1 -> first - 1 + draw(3);
@@ -84,15 +83,11 @@ public final class ModelTest {
         };
     }
 
-    private void same(String call, IntSupplier wanted, IntSupplier got) {
-        Check.due(run + ": " + call, answer(wanted), answer(got));
-    }
-
-    private static Object answer(IntSupplier call) {
-        try {
-            return call.getAsInt();
-        } catch (RuntimeException thrown) {
-            return thrown.getClass();
+    /** Asks both, as long as the object has calls left. */
+    private void same(String name, ToIntFunction<Memory> call) {
+        if (past.callsLeft() > 0) {
+            Check.due(run + ": " + name, Answer.of(() -> call.applyAsInt(plain)),
+                    Answer.of(() -> call.applyAsInt(past)));
         }
     }
 
@@ -130,8 +125,7 @@ public final class ModelTest {
         int kind = draw(40) == 0 ? near(3) : draw(5) == 0 ? 0 : 1 + draw(2);
         int value = draw(60) == 0 ? near(12) : draw(3) == 0 ? draw(objects) : draw(2);
         same("write " + branch + " " + object + " " + field + " " + kind + " " + value,
-                () -> plain.write(branch, object, field, kind, value),
-                () -> past.write(branch, object, field, kind, value));
+                memory -> memory.write(branch, object, field, kind, value));
     }
 
     private void read() {
@@ -141,8 +135,7 @@ public final class ModelTest {
         int field = someField();
         int what = near(3);
         same("read " + branch + " " + moment + " " + object + " " + field + " " + what,
-                () -> plain.read(branch, moment, object, field, what),
-                () -> past.read(branch, moment, object, field, what));
+                memory -> memory.read(branch, moment, object, field, what));
     }
 
     private void history() {
@@ -151,47 +144,43 @@ public final class ModelTest {
         int field = someField();
         int k = near(6);
         same("history " + branch + " " + object + " " + field + " " + k,
-                () -> plain.history(branch, object, field, k),
-                () -> past.history(branch, object, field, k));
+                memory -> memory.history(branch, object, field, k));
     }
 
     private void pair() {
         int one = openBranch();
         int two = openBranch();
         int k = near(5);
-        same("differs " + one + " " + two + " " + k, () -> plain.differs(one, two, k),
-                () -> past.differs(one, two, k));
+        same("differs " + one + " " + two + " " + k, memory -> memory.differs(one, two, k));
         int three = someBranch();
-        same("meeting " + one + " " + three, () -> plain.meeting(one, three),
-                () -> past.meeting(one, three));
+        same("meeting " + one + " " + three, memory -> memory.meeting(one, three));
     }
 
     private void join() {
         int from = openBranch();
         int to = openBranch();
-        same("join " + from + " " + to, () -> plain.join(from, to), () -> past.join(from, to));
+        same("join " + from + " " + to, memory -> memory.join(from, to));
     }
 
     private void branch() {
         int parent = openBranch();
         int moment = someMoment(parent);
-        same("branch " + parent + " " + moment, () -> plain.branch(parent, moment),
-                () -> past.branch(parent, moment));
+        same("branch " + parent + " " + moment, memory -> memory.branch(parent, moment));
     }
 
     private void close() {
         // Closed branches are few at first, so that the later calls have several to use.
-        int branch = draw(3) == 0 ? someBranch() : past.state(3);
-        same("close " + branch, () -> plain.close(branch), () -> {
-            past.close(branch);
+        int branch = draw(3) == 0 ? someBranch() : plain.state(3);
+        same("close " + branch, memory -> {
+            memory.close(branch);
             return 0;
         });
     }
 
     private void trim() {
-        int horizon = past.state(1);
+        int horizon = plain.state(1);
         int moment = draw(3) > 0 ? horizon - 1 + draw(12) : someMoment(0);
-        same("trim " + moment, () -> plain.trim(moment), () -> past.trim(moment));
+        same("trim " + moment, memory -> memory.trim(moment));
     }
 
     private void reach() {
@@ -199,19 +188,18 @@ public final class ModelTest {
         int moment = someMoment(branch);
         int object = someObject();
         same("reach " + branch + " " + moment + " " + object,
-                () -> plain.reach(branch, moment, object),
-                () -> past.reach(branch, moment, object));
+                memory -> memory.reach(branch, moment, object));
     }
 
     private void path() {
         if (draw(3) > 0) {
-            same("erase", plain::erase, () -> {
-                past.erase();
+            same("erase", memory -> {
+                memory.erase();
                 return 0;
             });
             String text = somePath();
             for (int at = 0; at < text.length(); at += 4) {
-                type(Text.word(text.substring(at, Math.min(at + 4, text.length()))));
+                type(Scenes.word(text.substring(at, Math.min(at + 4, text.length()))));
             }
         }
         if (draw(10) == 0) {
@@ -219,12 +207,11 @@ public final class ModelTest {
         }
         int branch = openBranch();
         int moment = someMoment(branch);
-        same("find " + branch + " " + moment, () -> plain.find(branch, moment),
-                () -> past.find(branch, moment));
+        same("find " + branch + " " + moment, memory -> memory.find(branch, moment));
     }
 
     private void type(int word) {
-        same("type " + word, () -> plain.type(word), () -> past.type(word));
+        same("type " + word, memory -> memory.type(word));
     }
 
     private String somePath() {
@@ -257,9 +244,8 @@ public final class ModelTest {
 
     private void asked() {
         int what = near(4);
-        same("state " + what, () -> plain.state(what), () -> past.state(what));
+        same("state " + what, memory -> memory.state(what));
         int branch = someBranch();
-        same("about " + branch + " " + what, () -> plain.about(branch, what),
-                () -> past.about(branch, what));
+        same("about " + branch + " " + what, memory -> memory.about(branch, what));
     }
 }

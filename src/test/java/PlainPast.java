@@ -9,7 +9,7 @@ import java.util.regex.Pattern;
  * The document's words in their plainest form, moment by moment and without any thought of speed,
  * as something to compare the program with.
  */
-final class PlainPast {
+final class PlainPast implements Memory {
     record Value(int kind, int content) {
         static final Value NOTHING = new Value(0, 0);
     }
@@ -98,7 +98,8 @@ final class PlainPast {
         writes.add(new Write(branch, clock, object, field, value));
     }
 
-    int branch(int parent, int moment) {
+    @Override
+    public int branch(int parent, int moment) {
         index(isBranch(parent));
         argument(canBeRead(parent, moment));
         state(branches.size() < 6);
@@ -107,14 +108,15 @@ final class PlainPast {
         return branches.size() - 1;
     }
 
-    int close(int branch) {
+    @Override
+    public void close(int branch) {
         index(isBranch(branch));
         state(open.contains(branch) && open.size() > 1);
         open.remove(branch);
-        return 0;
     }
 
-    int write(int branch, int object, int field, int kind, int value) {
+    @Override
+    public int write(int branch, int object, int field, int kind, int value) {
         index(isBranch(branch) && within(object, 12) && within(field, 4));
         argument(within(kind, 3) && (kind != 2 || within(value, 12)));
         state(open.contains(branch));
@@ -123,7 +125,8 @@ final class PlainPast {
         return clock;
     }
 
-    int read(int branch, int moment, int object, int field, int what) {
+    @Override
+    public int read(int branch, int moment, int object, int field, int what) {
         index(isBranch(branch) && within(object, 12) && within(field, 4));
         argument(canBeRead(branch, moment) && within(what, 3));
         Write write = reading(branch, moment, object, field);
@@ -131,7 +134,8 @@ final class PlainPast {
         return new int[] {value.kind(), value.content(), write == null ? -1 : write.moment()}[what];
     }
 
-    int history(int branch, int object, int field, int k) {
+    @Override
+    public int history(int branch, int object, int field, int k) {
         index(isBranch(branch) && within(object, 12) && within(field, 4));
         Set<Integer> moments = new TreeSet<>();
         for (int moment = 0; moment <= clock; moment++) {
@@ -145,7 +149,8 @@ final class PlainPast {
         return within(k, moments.size()) ? new ArrayList<>(moments).get(k) : -1;
     }
 
-    int differs(int one, int two, int k) {
+    @Override
+    public int differs(int one, int two, int k) {
         index(isBranch(one) && isBranch(two));
         state(open.contains(one) && open.contains(two));
         List<Integer> different = new ArrayList<>();
@@ -175,7 +180,8 @@ final class PlainPast {
         return clock;
     }
 
-    int meeting(int one, int two) {
+    @Override
+    public int meeting(int one, int two) {
         index(isBranch(one) && isBranch(two));
         List<Integer> other = line(two);
         int shared = line(one).stream().filter(other::contains).findFirst().orElseThrow();
@@ -184,7 +190,8 @@ final class PlainPast {
         return Math.min(first, second);
     }
 
-    int join(int from, int to) {
+    @Override
+    public int join(int from, int to) {
         index(isBranch(from) && isBranch(to));
         argument(from != to);
         state(open.contains(from) && open.contains(to) && meeting(from, to) >= horizon);
@@ -208,7 +215,8 @@ final class PlainPast {
         return conflicts;
     }
 
-    int trim(int moment) {
+    @Override
+    public int trim(int moment) {
         argument(moment >= horizon && moment <= clock);
         horizon = moment;
         Set<Integer> given = new TreeSet<>();
@@ -237,7 +245,8 @@ final class PlainPast {
         return objects.stream().mapToInt(object -> 1 << object).sum();
     }
 
-    int reach(int branch, int moment, int object) {
+    @Override
+    public int reach(int branch, int moment, int object) {
         index(isBranch(branch) && within(object, 12));
         argument(canBeRead(branch, moment));
         Set<Integer> found = new TreeSet<>(Set.of(object));
@@ -249,7 +258,8 @@ final class PlainPast {
         return sum(found);
     }
 
-    int type(int word) {
+    @Override
+    public int type(int word) {
         StringBuilder added = new StringBuilder();
         for (int part : new int[] {word >> 24 & 255, word >> 16 & 255, word >> 8 & 255, word & 255}) {
             argument(part == 0 || part >= 33 && part <= 126);
@@ -262,12 +272,13 @@ final class PlainPast {
         return text.length();
     }
 
-    int erase() {
+    @Override
+    public void erase() {
         text = "";
-        return 0;
     }
 
-    int find(int branch, int moment) {
+    @Override
+    public int find(int branch, int moment) {
         index(isBranch(branch));
         argument(canBeRead(branch, moment));
         if (!PATH.matcher(text).matches()) {
@@ -338,12 +349,14 @@ final class PlainPast {
         return found;
     }
 
-    int state(int what) {
+    @Override
+    public int state(int what) {
         argument(within(what, 4));
         return new int[] {clock, horizon, writes.size(), branches.size()}[what];
     }
 
-    int about(int branch, int what) {
+    @Override
+    public int about(int branch, int what) {
         index(isBranch(branch));
         argument(within(what, 4));
         int own = (int) writes.stream().filter(write -> write.branch() == branch).count();
