@@ -6,8 +6,19 @@ final class Check {
     static final Class<UnsupportedOperationException> UNSUPPORTED =
             UnsupportedOperationException.class;
 
+    /** Behind so many, more lines tell nothing new. */
+    private static final int MOST_TOLD = 200;
+
+    private static final long LONGEST_MILLISECONDS = 300_000;
+
     private static int made = 0;
     private static int wrong = 0;
+
+    static {
+        Thread watch = new Thread(Check::stopWhatDoesNotEnd);
+        watch.setDaemon(true);
+        watch.start();
+    }
 
     /** A call with one of its arguments left open. */
     interface With {
@@ -15,6 +26,17 @@ final class Check {
     }
 
     private Check() {
+    }
+
+    /** A call that never ends is a fault, too, and must not hold up the other tests. */
+    private static void stopWhatDoesNotEnd() {
+        try {
+            Thread.sleep(LONGEST_MILLISECONDS);
+            System.out.println("FAILED  a test does not end");
+            Runtime.getRuntime().halt(1);
+        } catch (InterruptedException ended) {
+            Thread.currentThread().interrupt();
+        }
     }
 
     static void due(String call, Object want, Object got) {
@@ -26,7 +48,9 @@ final class Check {
 
     static void fail(String why) {
         wrong++;
-        System.out.println("    " + why);
+        if (wrong <= MOST_TOLD) {
+            System.out.println("    " + why);
+        }
     }
 
     static int wrong() {

@@ -28,6 +28,8 @@ public final class FaceTest {
             Check.due(inside + " is static", true, Modifier.isStatic(inside.getModifiers()));
             Check.due(inside + " is public", false, Modifier.isPublic(inside.getModifiers()));
         }
+        Check.due("private methods with a public name", List.of(), publicNamesOfPrivateMethods());
+        Check.due("NONE", -1, BranchedPast.NONE);
         Check.end("FaceTest");
     }
 
@@ -65,6 +67,20 @@ public final class FaceTest {
             }
         }
         Collections.sort(seen);
+        return seen;
+    }
+
+    private static List<String> publicNamesOfPrivateMethods() {
+        List<String> names = new ArrayList<>();
+        for (Method method : BranchedPast.class.getMethods()) {
+            names.add(method.getName());
+        }
+        List<String> seen = new ArrayList<>();
+        for (Method method : BranchedPast.class.getDeclaredMethods()) {
+            if (Modifier.isPrivate(method.getModifiers()) && names.contains(method.getName())) {
+                seen.add(method.getName());
+            }
+        }
         return seen;
     }
 

@@ -220,6 +220,7 @@ final class JoinTerms {
     }
 
     private static void getTheseValues() {
+        alongALine();
         Past past = from5(memory -> {
             memory.write(1, 11, 3, 1, 9);
             memory.write(1, 11, 0, 2, 8);
@@ -238,5 +239,22 @@ final class JoinTerms {
         Check.due("each by a write", 10, past.state(0));
         Check.due("no difference is left but what was changed on 0", 20, past.differs(0, 1, 0));
         Check.due("no more of them", -1, past.differs(0, 1, 1));
+    }
+
+    /** The field is n + 1 on each branch n of the row: all but branch 0 have changed it. */
+    private static void alongALine() {
+        Past up = ROW.past();
+        Check.due("to the first one", 0, up.join(5, 0));
+        Check.due("its value", 6, up.read(0, 7, 0, 0, 1));
+        Check.due("not to those between them", 5, up.read(4, 7, 0, 0, 1));
+        up.write(0, 0, 0, 1, 9);
+        Check.due("changed on both", 1, up.join(5, 0));
+        Past down = ROW.past();
+        Check.due("nothing is changed behind the fork", 0, down.join(0, 5));
+        Check.due("nothing is written", 6, down.state(0));
+        down.write(0, 3, 3, 2, 3);
+        Check.due("from the first one", 0, down.join(0, 5));
+        Check.due("its kind", 2, down.read(5, 8, 3, 3, 0));
+        Check.due("not to those between them", 0, down.read(4, 8, 3, 3, 0));
     }
 }

@@ -69,5 +69,36 @@ public final class WhatItIsTest {
             }
         }
         Check.due("writes but for eight trims", 504, clock);
+        lateMoments();
+    }
+
+    /** Moments far behind the 120th are read as well as the first ones. */
+    private static void lateMoments() {
+        Scene late = memory -> {
+            for (int moment = 1; moment <= 400; moment++) {
+                memory.write(0, 0, 0, 1, moment);
+                if (moment % 100 == 0) {
+                    memory.trim(moment);
+                }
+            }
+            memory.write(0, 0, 0, 2, 7);
+            memory.branch(0, 400);
+        };
+        Past past = late.past();
+        Check.due("horizon", 400, past.state(1));
+        Check.due("clock", 401, past.state(0));
+        Check.due("fork", 400, past.about(1, 2));
+        Check.due("meeting", 400, past.meeting(0, 1));
+        Check.due("value", 400, past.read(1, 401, 0, 0, 1));
+        Check.due("moment", 400, past.read(1, 401, 0, 0, 2));
+        Check.due("history", 401, past.history(0, 0, 0, 1));
+        Check.due("reach", 129, past.reach(0, 401, 0));
+        Check.due("reach on the branch", 1, past.reach(1, 401, 0));
+        Check.due("join", 0, past.join(0, 1));
+        Check.due("moment of the join", 402, past.read(1, 402, 0, 0, 2));
+        Check.refused("after the clock", Check.ARGUMENT, late,
+                memory -> memory.read(0, 402, 0, 0, 0));
+        Check.refused("before the horizon", Check.ARGUMENT, late,
+                memory -> memory.read(0, 399, 0, 0, 0));
     }
 }
