@@ -16,7 +16,8 @@ final class Edges {
     private static final int[] WHATS = {LEAST, -1, 0, 1, 2, 3, 4, GREATEST};
     private static final int[] PLACES = {LEAST, -1, 0, 1, 2, 47, 48, 119, 120, GREATEST};
     private static final int[] BRANCHES = {LEAST, -1, 0, 1, 2, 3, 4, 5, 6, GREATEST};
-    private static final int[] MOMENTS = {LEAST, -1, 0, 1, 2, 3, 4, 5, 6, 7, 119, 120, 121, GREATEST};
+    private static final int[] MOMENTS =
+            {LEAST, -1, 0, 1, 2, 3, 4, 5, 6, 7, 119, 120, 121, GREATEST};
     private static final int[] BYTES = {0, 1, 32, 33, 126, 127, 128, 255};
 
     private static final Scene SMALL = Readable.FORKED.then(Scenes.text("*^0~"));

@@ -22,8 +22,8 @@ final class JoinTerms {
     }
 
     static void tests(Sentences terms) {
-        terms.test("THE MEETING of two branches: the LINE of a branch is that one, its parent, that "
-                + "one's parent, and so on", JoinTerms::theLine);
+        terms.test("THE MEETING of two branches: the LINE of a branch is that one, its parent, "
+                + "that one's parent, and so on", JoinTerms::theLine);
         terms.test("Let a be the first one on the line of the one that is also on the line of the "
                 + "other", JoinTerms::theFirstOnBothLines);
         terms.test("Each of the two has left a at a moment: the fork of that one on its line whose "

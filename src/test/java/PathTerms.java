@@ -38,10 +38,10 @@ final class PathTerms {
                 PathTerms::thatFieldOfTheseRefers);
         terms.test("^ and a digit: those whose field refers to one of these",
                 PathTerms::refersToOneOfThese);
-        terms.test("either one, with ~ behind it, done again and again: all that come so, and these "
-                + "themselves", PathTerms::againAndAgain);
-        terms.test("[ and a digit, one of < = >, a number (perhaps - and one to four digits) and ]: "
-                + "those of these whose field is a number that is so", PathTerms::aNumberThatIsSo);
+        terms.test("either one, with ~ behind it, done again and again: all that come so, and "
+                + "these themselves", PathTerms::againAndAgain);
+        terms.test("[ and a digit, one of < = >, a number (perhaps - and one to four digits) and "
+                + "]: those of these whose field is a number that is so", PathTerms::aNumberThatIsSo);
         terms.test("? and a digit: those of these whose field is nothing", PathTerms::isNothing);
         terms.test("It gives a set of objects, as the sum of 2^object", PathTerms::theSum);
     }

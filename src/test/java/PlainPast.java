@@ -261,7 +261,8 @@ final class PlainPast implements Memory {
     @Override
     public int type(int word) {
         StringBuilder added = new StringBuilder();
-        for (int part : new int[] {word >> 24 & 255, word >> 16 & 255, word >> 8 & 255, word & 255}) {
+        for (int shift = 24; shift >= 0; shift -= 8) {
+            int part = word >> shift & 255;
             argument(part == 0 || part >= 33 && part <= 126);
             if (part != 0) {
                 added.append((char) part);

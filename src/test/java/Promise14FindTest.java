@@ -44,7 +44,8 @@ public final class Promise14FindTest {
     }
 
     private static void noneWhenItIsNoPath() {
-        for (String text : new String[] {"", "m", "a.", "a.4", "a.1.1.1.1.1.1.1.1.1.1.1.1.1.1.1."}) {
+        String[] texts = {"", "m", "a.", "a.4", "a.1.1.1.1.1.1.1.1.1.1.1.1.1.1.1."};
+        for (String text : texts) {
             Scene typed = LINKED.then(Scenes.text(text));
             Check.due("no path: " + text, -1, typed.past().find(0, 4));
             Check.due("no path on 1: " + text, -1, typed.past().find(1, 2));

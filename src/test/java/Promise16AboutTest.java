@@ -68,7 +68,8 @@ public final class Promise16AboutTest {
             Check.allowedWithin("branch", 0, 2, USED, about);
             Check.refusedOutside("branch", Check.INDEX, 0, 2, USED, about);
         }
-        Check.allowedWithin("branch", 0, 5, Scenes.SIX, (memory, branch) -> memory.about(branch, 0));
+        Check.allowedWithin("branch", 0, 5, Scenes.SIX,
+                (memory, branch) -> memory.about(branch, 0));
         Check.refusedOutside("branch", Check.INDEX, 0, 5, Scenes.SIX,
                 (memory, branch) -> memory.about(branch, 3));
     }

@@ -5,8 +5,8 @@ public final class WhatItIsTest {
 
     public static void main(String[] args) {
         Sentences first = new Sentences("What it is");
-        first.test("A memory of objects in which nothing is written over: each field can be read as "
-                + "it was at any moment, on any branch", WhatItIsTest::nothingIsWrittenOver);
+        first.test("A memory of objects in which nothing is written over: each field can be read "
+                + "as it was at any moment, on any branch", WhatItIsTest::nothingIsWrittenOver);
         first.test("lines of time branch off and come together again",
                 WhatItIsTest::comeTogetherAgain);
         first.test("what nobody can read any more is let go", WhatItIsTest::isLetGo);
